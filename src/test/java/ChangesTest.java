@@ -336,6 +336,47 @@ public final class ChangesTest {
         due("waits", x.waiting(0, 1), 3);
     }
 
+    static void promise05TheMostRoomIsFull() {
+        for (int drop = 0; drop < 2; drop++) {
+            LineDoubler x = new LineDoubler();
+            x.set(LineDoubler.ROOM, 16);
+            x.set(LineDoubler.HEIGHT, 16);
+            x.set(LineDoubler.IN, 2);
+            x.set(LineDoubler.DROP, drop);
+            x.slip(1, 99);
+            x.pass(31);
+            due("waiting", x.count(2), 16);
+            due("missing", x.count(4), 0);
+            x.pass(2);
+            due("waiting", x.count(2), 16);
+            due("missing", x.count(4), 1);
+            due("picture", x.ofMissing(0, 0), 1 - drop);
+            due("line", x.ofMissing(0, 1), 0);
+            due("why", x.ofMissing(0, 2), drop);
+            due("first", x.waiting(0, 1), drop);
+            due("last, picture", x.waiting(15, 0), drop);
+            due("last, line", x.waiting(15, 1), 15 - 15 * drop);
+        }
+    }
+
+    static void promise05SyncSkipsAllIfThereIsNoLineZero() {
+        LineDoubler x = new LineDoubler();
+        x.slip(1, 30);
+        x.pass(1);
+        x.flush();
+        x.set(LineDoubler.SYNC, 1);
+        x.pass(30);
+        // The lines 1 to 3 waited at the tick 30.
+        due("missing", x.count(4), 4);
+        due("none waits", x.count(2), 0);
+        due("empty", x.count(6), 1);
+        for (int missing = 0; missing < 3; missing++) {
+            due("line", x.ofMissing(missing, 1), 3 - missing);
+            due("skipped", x.ofMissing(missing, 2), 2);
+            due("tick", x.ofMissing(missing, 3), 30);
+        }
+    }
+
     static void promise05SyncSkipsToALineZero() {
         LineDoubler x = new LineDoubler();
         x.set(LineDoubler.HEIGHT, 2);
@@ -430,6 +471,37 @@ public final class ChangesTest {
         due("rows 0 and 1", x.row(0, 1), 1);
         due("rows 0 and 1", x.row(1, 2), 1);
         due("rows 2 and 3", x.row(2, 1), 2);
+    }
+
+    static void promise05BlankedByTheFirstRowAlone() {
+        LineDoubler x = new LineDoubler();
+        x.set(LineDoubler.HEIGHT, 2);
+        x.slip(0, 3);
+        x.pass(16);
+        // Rows at 0 (empty), 5, 10 and 15; lines at 3 and 13.
+        due("empty", x.count(6), 1);
+        due("blanked", x.count(15), 2);
+        due("blanked", x.count(14), 1);
+        due("torn", x.count(13), 0);
+    }
+
+    static void promise05TornThoughTheLinesAreRight() {
+        LineDoubler x = new LineDoubler();
+        x.set(LineDoubler.HEIGHT, 2);
+        x.pass(6);
+        due("slip", x.slip(1, 25), 35);
+        x.pass(20);
+        // The line 1 of the picture 0 and the line 0 of the picture 1 wait, and are flushed.
+        due("flush", x.flush(), 2);
+        x.pass(15);
+        due("row 0", x.row(0, 1), 0);
+        due("row 1", x.row(1, 2), 0);
+        due("row 2", x.row(2, 1), 1);
+        due("row 3", x.row(3, 2), 1);
+        due("empty", x.count(6), 0);
+        due("torn", x.count(15), 1);
+        due("torn", x.count(13), 1);
+        due("clean", x.count(12), 0);
     }
 
     static void promise05RowsShowTheColourOfTheirTime() {

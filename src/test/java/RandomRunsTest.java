@@ -6,7 +6,7 @@ public final class RandomRunsTest {
     private static final int CALLS = 512;
     private static final int[][] RANGES = {{2, 99}, {1, 99}, {1, 16}, {2, 16}, {0, 1}, {0, 1}, {0, 255}, {0, 255}};
     private static final String[] PIECES = {"i", "o", "v", "t", "<", ">", ";", "=", "0", "9", "25", "t9", "v3=7", ";i4", ";o2",
-        ";t30", "i5;t7", "<8;", ">3;", "o1;", "999", "x", "v15=99;t88", ";>1;<1"};
+        ";t30", "i5;t7", "<8;", ">3;", "o1;", "999", "x", "v15=99;t88", "v0=0", ";>1;<1"};
 
     private final Random random;
     private final LineDoubler x = new LineDoubler();

@@ -134,6 +134,13 @@ public final class TextsTest {
         due("the pad stays empty", x.count(24), 0);
     }
 
+    static void promise20AnAnswerOf0IsNoError() {
+        LineDoubler x = with("v0=0;v0=5;t3");
+        due("orders", x.carryOut(), 3);
+        due("tick", x.count(0), 3);
+        due("value", x.value(0, 0), 5);
+    }
+
     static void promise20EndsAtAnError() {
         Object[][] texts = {{"i1;t5", 0}, {"t5;i100;t5", 1}, {"o0", 0}, {"t1;o100", 1}, {"v16=0", 0}, {"v0=256", 0},
             {"v15=255;v999=999;t9", 1}, {"t0", 0}, {"<0", 0}, {">0", 0}, {"<100", 0}, {">100;t1", 0}, {"<99;>99;>100", 2}};

@@ -174,4 +174,15 @@ public final class WhatIfTest {
         due("a short one", x.bestOut(999, 0), 1);
         due("out stays", x.count(17), 5);
     }
+
+    static void promise16BestOutUpTo99() {
+        LineDoubler x = new LineDoubler();
+        x.slip(0, 99);
+        x.slip(0, 99);
+        // No line comes: each row that goes out in the ticks 0 to ticks - 1 is empty.
+        due("only the first row", x.bestOut(99, 0), 99);
+        due("only the first row", x.bestOut(99, 1), 1);
+        due("two rows at least", x.bestOut(100, 0), 50);
+        due("two rows at least", x.bestOut(100, 1), 2);
+    }
 }
