@@ -18,6 +18,8 @@ public final class LineDoubler {
     private static final int MOST_SLIP = 99;
     private static final int MOST_TICKS = 999;
     private static final int LAST_TICK = 99999;
+    // Above every tick, and above all faults that some ticks can bring.
+    private static final int ENDLESS = 1 << 30;
     private static final int MOST_CHARACTERS = 8;
     private static final int PAD_ROOM = 80;
     private static final int MOST_DIGITS = 3;
@@ -142,7 +144,7 @@ public final class LineDoubler {
             return BAD_VALUE;
         }
         trial.copyFrom(state);
-        trial.passTicks(ticks, Integer.MAX_VALUE);
+        trial.passTicks(ticks, ENDLESS);
         if (what == 0) {
             return gainOf(MISSING);
         }
@@ -167,7 +169,7 @@ public final class LineDoubler {
             return BAD_VALUE;
         }
         int best = 0;
-        int fewest = Integer.MAX_VALUE;
+        int fewest = ENDLESS;
         for (int out = 1; out <= MOST_OUT; out++) {
             tryWith(OUT, out, ticks);
             int faults = gainOf(MISSING) + gainOf(EMPTY_ROWS);
@@ -277,7 +279,7 @@ public final class LineDoubler {
         if (isWithin(setting, 0, SETTINGS - 1)) {
             trial.numbers[SETTING + setting] = value;
         }
-        trial.passTicks(ticks, Integer.MAX_VALUE);
+        trial.passTicks(ticks, ENDLESS);
     }
 
     /** By how much a number is greater in the trial than in the state. */

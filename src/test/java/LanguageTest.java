@@ -1,4 +1,5 @@
 import com.sun.source.tree.CompilationUnitTree;
+import com.sun.source.tree.MemberSelectTree;
 import com.sun.source.tree.MethodInvocationTree;
 import com.sun.source.tree.MethodTree;
 import com.sun.source.tree.NewClassTree;
@@ -22,6 +23,7 @@ import java.util.Map;
 import java.util.Set;
 import java.util.TreeSet;
 import javax.lang.model.element.Element;
+import javax.lang.model.element.ElementKind;
 import javax.lang.model.element.TypeElement;
 import javax.tools.JavaCompiler;
 import javax.tools.StandardJavaFileManager;
@@ -162,6 +164,15 @@ public final class LanguageTest {
         public Void visitMethodInvocation(MethodInvocationTree call, Void none) {
             callsHere.add(trees.getElement(getCurrentPath()));
             return super.visitMethodInvocation(call, none);
+        }
+
+        @Override
+        public Void visitMemberSelect(MemberSelectTree select, Void none) {
+            Element chosen = trees.getElement(getCurrentPath());
+            boolean isField = chosen != null && chosen.getKind() == ElementKind.FIELD;
+            hold(!isField || chosen.getSimpleName().contentEquals("length")
+                    || chosen.getEnclosingElement().toString().startsWith("LineDoubler"), "rule 4: " + select);
+            return super.visitMemberSelect(select, none);
         }
 
         @Override
