@@ -89,12 +89,18 @@ final class Check {
         return x.fault();
     }
 
-    /** All that can be seen without a change, but for the pad and the history. */
-    static String seen(LineDoubler x) {
-        StringBuilder seen = new StringBuilder("counts");
+    /** What count() tells, but for the pad and the history. */
+    static String counts(LineDoubler x) {
+        StringBuilder counts = new StringBuilder("counts");
         for (int what = 0; what < 24; what++) {
-            seen.append(' ').append(x.count(what));
+            counts.append(' ').append(x.count(what));
         }
+        return counts.toString();
+    }
+
+    /** All that can be seen without a change, but for the pad and the history: some 250 calls at most. */
+    static String seen(LineDoubler x) {
+        StringBuilder seen = new StringBuilder(counts(x));
         seen.append(" waiting");
         for (int place = 0; x.waiting(place, 0) != LineDoubler.NO_SUCH; place++) {
             for (int what = 0; what < 4; what++) {

@@ -1,9 +1,10 @@
 import java.util.Random;
 
-/** Runs of 512 calls, the same ones in each test run, on a LineDoubler and on the SlowModel: all promises together. */
+/** Runs of up to 512 calls, the same ones in each test run, on a LineDoubler and on the SlowModel: all promises together. */
 public final class RandomRunsTest {
-    private static final int RUNS = Integer.getInteger("runs", 300);
-    private static final int CALLS = 512;
+    private static final int RUNS = Integer.getInteger("runs", 3000);
+    // An object is good for 512 calls; the look at all of it behind the last one of these takes up to 250 calls.
+    private static final int CALLS = 250;
     private static final int[][] RANGES = {{2, 99}, {1, 99}, {1, 16}, {2, 16}, {0, 1}, {0, 1}, {0, 255}, {0, 255}};
     private static final String[] PIECES = {"i", "o", "v", "t", "<", ">", ";", "=", "0", "9", "25", "t9", "v3=7", ";i4", ";o2",
         ";t30", "i5;t7", "<8;", ">3;", "o1;", "999", "x", "v15=99;t88", "v0=0", ";>1;<1"};
@@ -16,6 +17,7 @@ public final class RandomRunsTest {
     // How quick the clocks are that a run likes, and how far it lets time go.
     private final int slow;
     private final int far;
+    private int calls;
 
     private RandomRunsTest(long seed) {
         random = new Random(seed);
@@ -39,9 +41,14 @@ public final class RandomRunsTest {
         if (random.nextInt(4) > 0) {
             compare(run, -1, 5);
         }
-        for (int call = 0; call < CALLS && !Check.failed(); call++) {
+        // A few runs begin where time ends.
+        for (int passes = 0; run % 40 == 0 && passes < 100; passes++) {
+            due(run, -1, "pass(999)", x.pass(999), model.pass(999));
+        }
+        for (int call = 0; calls < CALLS && !Check.failed(); call++) {
             compare(run, call, random.nextInt(64));
         }
+        lookAtAll(run, CALLS);
     }
 
     private int pick(int least, int most) {
@@ -57,6 +64,7 @@ public final class RandomRunsTest {
     }
 
     private void due(int run, int call, String what, long got, long want) {
+        calls++;
         if (got != want) {
             Check.due("run " + run + ", call " + call + ": " + what, got, want);
         }
@@ -147,30 +155,50 @@ public final class RandomRunsTest {
 
     private void look(int run, int call, int kind) {
         int what = pick(0, 3);
-        int place = pick(0, kind < 48 ? 7 : 31);
-        due(run, call, "waiting(" + place + ", " + what + ")", x.waiting(place, what), model.waiting(place, what));
-        due(run, call, "row(" + place + ", " + what + ")", x.row(place, what), model.row(place, what));
-        due(run, call, "ofMissing(" + place + ", " + what + ")", x.ofMissing(place, what), model.ofMissing(place, what));
-        due(run, call, "count(" + place + ")", x.count(place), model.count(place));
-        due(run, call, "shown()", x.shown(), model.shown());
-        due(run, call, "ratio()", x.ratio(), model.ratio());
-        due(run, call, "fill()", x.fill(), model.fill());
-        if (kind < 40) {
-            lookAtAll(run, call);
+        int place = pick(0, random.nextBoolean() ? 7 : 31);
+        switch (kind % 7) {
+            case 0:
+                due(run, call, "waiting(" + place + ", " + what + ")", x.waiting(place, what), model.waiting(place, what));
+                break;
+            case 1:
+                due(run, call, "row(" + place + ", " + what + ")", x.row(place, what), model.row(place, what));
+                break;
+            case 2:
+                due(run, call, "ofMissing(" + place + ", " + what + ")", x.ofMissing(place, what),
+                        model.ofMissing(place, what));
+                break;
+            case 3:
+                due(run, call, "count(" + place + ")", x.count(place), model.count(place));
+                break;
+            case 4:
+                due(run, call, "shown()", x.shown(), model.shown());
+                break;
+            case 5:
+                due(run, call, "ratio()", x.ratio(), model.ratio());
+                break;
+            default:
+                due(run, call, "fill()", x.fill(), model.fill());
+                break;
         }
     }
 
     private void lookAtAll(int run, int call) {
-        for (int what = -1; what < 27; what++) {
+        for (int what = 0; what < 26; what++) {
             due(run, call, "count(" + what + ")", x.count(what), model.count(what));
         }
-        for (int place = -1; place < 33; place++) {
-            for (int what = -1; what < 5; what++) {
+        for (int what = 0; what < 4; what++) {
+            for (int place = 0; place <= model.count(2); place++) {
                 due(run, call, "waiting(" + place + ", " + what + ")", x.waiting(place, what), model.waiting(place, what));
-                due(run, call, "row(" + place + ", " + what + ")", x.row(place, what), model.row(place, what));
-                due(run, call, "ofMissing(" + place + ", " + what + ")", x.ofMissing(place, what),
-                        model.ofMissing(place, what));
+            }
+            for (int row = 0; row < 2 * model.count(19) && what < 3; row++) {
+                due(run, call, "row(" + row + ", " + what + ")", x.row(row, what), model.row(row, what));
+            }
+            for (int missing = 0; missing < 9; missing++) {
+                due(run, call, "ofMissing(" + missing + ", " + what + ")", x.ofMissing(missing, what),
+                        model.ofMissing(missing, what));
             }
         }
+        due(run, call, "shown()", x.shown(), model.shown());
+        due(run, call, "fill()", x.fill(), model.fill());
     }
 }

@@ -234,17 +234,19 @@ public final class SeenTest {
     }
 
     static void promise13FillBitForBit() {
-        LineDoubler x = new LineDoubler();
-        x.set(LineDoubler.ROOM, 16);
-        x.set(LineDoubler.IN, 7);
-        long sum = 0;
-        for (int tick = 0; tick < 4000; tick++) {
-            if (tick == 1000) {
-                x.set(LineDoubler.OUT, 3);
+        for (int in = 2; in <= 17; in++) {
+            LineDoubler x = new LineDoubler();
+            x.set(LineDoubler.ROOM, 16);
+            x.set(LineDoubler.IN, in);
+            long sum = 0;
+            for (int tick = 0; tick < 160; tick++) {
+                if (tick == 80) {
+                    x.set(LineDoubler.OUT, 3);
+                }
+                x.pass(1);
+                sum += x.count(2);
+                due("fill", x.fill(), Double.doubleToLongBits((double) sum / (tick + 1)));
             }
-            x.pass(1);
-            sum += x.count(2);
-            due("fill", x.fill(), Double.doubleToLongBits((double) sum / (tick + 1)));
         }
     }
 

@@ -8,22 +8,20 @@ public final class WhatIfTest {
         Check.due(call, got, want);
     }
 
-    /** Objects in the midst of some runs. */
-    private static LineDoubler[] some() {
-        LineDoubler[] some = new LineDoubler[24];
-        for (int i = 0; i < some.length; i++) {
-            LineDoubler x = new LineDoubler();
-            x.set(LineDoubler.HEIGHT, 2 + i % 5);
-            x.set(LineDoubler.IN, 2 + i * 7 % 23);
-            x.set(LineDoubler.OUT, 1 + i * 5 % 11);
-            x.set(LineDoubler.ROOM, 1 + i * 3 % 7);
-            x.set(LineDoubler.DROP, i / 2 % 2);
-            x.set(LineDoubler.SYNC, i % 2);
-            x.slip(i % 2, 1 + i * 3);
-            x.pass(1 + 41 * i);
-            some[i] = x;
-        }
-        return some;
+    private static final int SOME = 24;
+
+    /** One of some objects in the midst of a run. */
+    private static LineDoubler some(int i) {
+        LineDoubler x = new LineDoubler();
+        x.set(LineDoubler.HEIGHT, 2 + i % 5);
+        x.set(LineDoubler.IN, 2 + i * 7 % 23);
+        x.set(LineDoubler.OUT, 1 + i * 5 % 11);
+        x.set(LineDoubler.ROOM, 1 + i * 3 % 7);
+        x.set(LineDoubler.DROP, i / 2 % 2);
+        x.set(LineDoubler.SYNC, i % 2);
+        x.slip(i % 2, 1 + i * 3);
+        x.pass(1 + 41 * i);
+        return x;
     }
 
     private static int passed(LineDoubler x, int ticks, int count) {
@@ -36,15 +34,14 @@ public final class WhatIfTest {
 
     static void promise14WouldIsWhatPassBrings() {
         int[] counts = {4, 6, 12};
-        for (LineDoubler x : some()) {
+        for (int i = 0; i < SOME; i++) {
             for (int ticks = 1; ticks < 999; ticks += 83) {
                 for (int what = 0; what < 3; what++) {
+                    LineDoubler x = some(i);
                     String before = Check.all(x);
                     int would = x.would(ticks, what);
                     Check.same("nothing changes", Check.all(x), before);
                     due("would(" + ticks + ", " + what + ")", would, passed(x, ticks, counts[what]));
-                    x.flush();
-                    x.undo();
                 }
             }
         }
@@ -82,8 +79,9 @@ public final class WhatIfTest {
     }
 
     static void promise15LeastRoomIsTheLeast() {
-        for (LineDoubler x : some()) {
+        for (int i = 0; i < SOME; i++) {
             for (int ticks = 1; ticks < 999; ticks += 131) {
+                LineDoubler x = some(i);
                 int want = -6;
                 for (int room = 16; room >= Math.max(1, x.count(2)); room--) {
                     x.set(LineDoubler.ROOM, room);
@@ -135,19 +133,20 @@ public final class WhatIfTest {
     }
 
     static void promise16BestOutIsTheBest() {
-        for (LineDoubler x : some()) {
+        for (int i = 0; i < SOME; i++) {
             for (int ticks = 1; ticks < 999; ticks += 331) {
                 int best = 0;
                 int fewest = Integer.MAX_VALUE;
                 for (int out = 1; out <= 99; out++) {
-                    x.set(LineDoubler.OUT, out);
-                    int faults = passed(x, ticks, 4) + passed(x, ticks, 6);
+                    LineDoubler y = some(i);
+                    y.set(LineDoubler.OUT, out);
+                    int faults = passed(y, ticks, 4) + passed(y, ticks, 6);
                     if (faults < fewest) {
                         best = out;
                         fewest = faults;
                     }
-                    x.undo();
                 }
+                LineDoubler x = some(i);
                 String before = Check.all(x);
                 due("bestOut(" + ticks + ", 0)", x.bestOut(ticks, 0), best);
                 due("bestOut(" + ticks + ", 1)", x.bestOut(ticks, 1), fewest);
