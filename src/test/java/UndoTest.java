@@ -235,9 +235,6 @@ public final class UndoTest {
         x.pass(40);
         due("the slot keeps it", x.restore(0), 1325);
         due("as it was saved", saved.startsWith(Check.counts(x)) ? 1 : 0, 1);
-        x.pass(40);
-        due("once more", x.restore(0), 1325);
-        due("as it was saved", saved.startsWith(Check.counts(x)) ? 1 : 0, 1);
         due("the other slot", x.restore(1), 0);
         due("height can change again", x.set(LineDoubler.HEIGHT, 7), 2);
     }
