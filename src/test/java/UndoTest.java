@@ -231,7 +231,7 @@ public final class UndoTest {
         due("pad", x.count(24), 2);
         due("history", x.count(25), 5);
         due("undo", x.undo(), 4);
-        Check.same("as it was later", Check.seen(x), later);
+        due("as it was later", later.startsWith(Check.counts(x)) ? 1 : 0, 1);
         x.pass(40);
         due("the slot keeps it", x.restore(0), 1325);
         due("as it was saved", saved.startsWith(Check.counts(x)) ? 1 : 0, 1);
