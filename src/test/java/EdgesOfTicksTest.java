@@ -308,6 +308,28 @@ public final class EdgesOfTicksTest {
         due("the row is empty", x.count(6), 1);
     }
 
+    @Sentence("or none waits.")
+    static void termsSyncSkipsNoMoreThanWaited() {
+        for (int lines = 0; lines < 2; lines++) {
+            LineDoubler x = Scenes.filled(16, 16, 0);
+            x.set(SYNC, 1);
+            // The lines 0 and 1 of the picture 1 have no room; the line 2 waits alone, or none does, ahead of the row 0.
+            x.pass(3);
+            due("no room for two", x.count(4), 2);
+            x.flush();
+            if (lines == 1) {
+                x.pass(2);
+            }
+            x.slip(0, 99);
+            x.pass(99 - x.count(0));
+            due("so many wait", x.count(2), lines);
+            x.pass(1);
+            due("missing", x.count(4), 18 + lines);
+            due("none waits", x.count(2), 0);
+            due("empty", x.count(6), 1);
+        }
+    }
+
     @Sentence("with SYNC as 1, ahead of the row 0, waiting lines are skipped")
     static void termsSyncAs0SkipsNothing() {
         LineDoubler x = Scenes.quick(6, 0);
